@@ -7,6 +7,7 @@ import java.util.HexFormat;
 final class HashTest {
     public static void main(String[] args) throws NoSuchAlgorithmException {
         knownRipemd160();
+        longRipemd160();
         knownSha256();
         everyLength();
         theRowStays();
@@ -40,6 +41,30 @@ final class HashTest {
         ripemd160("1234567890".repeat(8), "9b752e45573d4b39f4dbd3323cab82bf63326bfb");
     }
 
+    /** Lengths about the ends of blocks; these sums are OpenSSL's. */
+    private static void longRipemd160() {
+        ripemd160(55, "55c43c4e97e803010937b492d8c17ce1507ff933");
+        ripemd160(56, "983c5dd368608a6ee4739c1dde1debdee23fd1d6");
+        ripemd160(63, "1a48a0bd50865de150615d3963f99d13f57fd536");
+        ripemd160(64, "ba56c26c679a6e23652ea0389883aa1b3de68a80");
+        ripemd160(119, "8145deca26648f2cfa07c3eca8b10a1a54437022");
+        ripemd160(120, "5794cacc129b668453d3b2e2daa5d6dbff463977");
+        ripemd160(255, "3bc1c57b09726da7cf20e2bcd27c655ff5cce017");
+        ripemd160(1000, "f83267dd950b6efcef075b255742c16ceb94c1a9");
+    }
+
+    private static void ripemd160(int length, String due) {
+        Check.same("RIPEMD-160 of " + length, sum(Scripts.fed(mixed(length)), 2), due);
+    }
+
+    private static byte[] mixed(int length) {
+        byte[] bytes = new byte[length];
+        for (int i = 0; i < length; i++) {
+            bytes[i] = (byte) (i * i * 7 + i * 31 + 200);
+        }
+        return bytes;
+    }
+
     private static void ripemd160(String text, String due) {
         Check.same("RIPEMD-160 of " + text, sum(Scripts.fed(ascii(text)), 2), due);
     }
@@ -56,12 +81,8 @@ final class HashTest {
 
     private static void everyLength() throws NoSuchAlgorithmException {
         MessageDigest sha256 = MessageDigest.getInstance("SHA-256");
-        byte[] bytes = new byte[1000];
-        for (int i = 0; i < bytes.length; i++) {
-            bytes[i] = (byte) (i * i * 7 + i * 31 + 200);
-        }
         for (int length = 1000; length >= 0; length--) {
-            byte[] part = java.util.Arrays.copyOf(bytes, length);
+            byte[] part = mixed(length);
             ScriptDesk desk = Scripts.fed(part);
             byte[] once = sha256.digest(part);
             Check.same("SHA-256 of " + length, sum(desk, 0), HexFormat.of().formatHex(once));

@@ -125,8 +125,10 @@ final class Scripts {
         StringBuilder text = new StringBuilder();
         for (int k = desk.depth() - 1; k >= 0; k--) {
             text.append(text.length() == 0 ? "" : " ");
-            text.append(desk.size(k) == 0 ? "-" : "");
-            for (int i = 0; i < desk.size(k); i++) {
+            // Asked once: an object answers for 512 calls only.
+            int size = desk.size(k);
+            text.append(size == 0 ? "-" : "");
+            for (int i = 0; i < size; i++) {
                 text.append(String.format("%02x", desk.at(k, i)));
             }
         }
