@@ -102,12 +102,9 @@ public final class ScriptDesk {
         }
         int counted = 0;
         for (int place = 0; place < n; place++) {
-            int carried = Code.carried(row, place, n);
-            if (carried >= n - place) {
-                return counted;
-            }
             counted += sigsOf(row[place] & 255);
-            place += carried;
+            // A push that goes beyond ends the loop, and counts nothing itself.
+            place += Code.carried(row, place, n);
         }
         return counted;
     }
@@ -372,7 +369,11 @@ public final class ScriptDesk {
         }
 
         Thing pop() {
-            return take(0);
+            if (count == 0) {
+                return none;
+            }
+            count--;
+            return things[count];
         }
 
         Thing take(int place) {
@@ -468,6 +469,8 @@ public final class ScriptDesk {
         private final Sum ripemd160;
         private final Stack other;
         private final Branches branches;
+        private final Thing yes;
+        private final Thing no;
         private Stack main;
         private int counted;
 
@@ -476,6 +479,8 @@ public final class ScriptDesk {
             this.ripemd160 = ripemd160;
             other = new Stack();
             branches = new Branches();
+            yes = Thing.ofNumber(1);
+            no = Thing.ofNumber(0);
             main = new Stack();
             counted = 0;
         }
@@ -763,7 +768,7 @@ public final class ScriptDesk {
         }
 
         private boolean pushTruth(boolean truth) {
-            return pushNumber(truth ? 1 : 0);
+            return main.push(truth ? yes : no);
         }
     }
 

@@ -143,6 +143,9 @@ final class RunTest {
         fails("1 #4c");
         fails("1 #4c01");
         fails("1 #4cff" + "0a".repeat(254));
+        // The length would stand behind the last byte that a row can have.
+        fails(("x" + "0a".repeat(248) + " ").repeat(3), "x" + "0a".repeat(247) + " #4c");
+        ends(("x" + "0a".repeat(248) + " DROP ").repeat(3), "x" + "0b".repeat(244) + " 1", 2, "0b".repeat(244) + " 01");
     }
 
     private static void branches() {
@@ -176,6 +179,8 @@ final class RunTest {
         fails("1 IF ELSE");
         fails("1 1 IF IF ENDIF");
         fails("0 IF IF ENDIF");
+        fails("IF");
+        fails("NOTIF");
         fails("IF ENDIF");
         fails("NOTIF ENDIF");
         fails("ELSE");
@@ -481,6 +486,7 @@ final class RunTest {
     private static void codeLimit() {
         leaves("1 NOP*201", "01");
         fails("1 NOP*202");
+        leaves("16 NOP*201", "10");
         ends("NOP*201", "1 NOP*201", 2, "01");
         leaves("1 -1*9 2*9 DROP*18 NOP*183", "01");
         leaves("0 IF NOP*199 ENDIF 1", "01");

@@ -44,6 +44,7 @@ final class SigsTest {
         counts("CHECKSIG #02acac", 1);
         counts("CHECKSIG #4bac", 1);
         counts("CHECKSIG #4c", 1);
+        counts("CHECKSIG*999 #4c", 999);
         counts("CHECKSIG #4c02ac", 1);
         counts("CHECKSIG #4cacac", 1);
         counts("#ffac4cff CHECKSIG*9", 1);
