@@ -6,15 +6,21 @@ final class Check {
 
     private static int wrong = 0;
     private static int done = 0;
+    private static String sentence = "";
 
     private Check() {
+    }
+
+    /** The sentence of the document that the checks from here on are about. */
+    static void about(String words) {
+        sentence = "(" + words + ") ";
     }
 
     static void same(String what, Object got, Object due) {
         done++;
         if (!due.equals(got)) {
             wrong++;
-            System.out.println(what + ": got " + got + ", due is " + due);
+            System.out.println(sentence + what + ": got " + got + ", due is " + due);
         }
     }
 

@@ -1,5 +1,5 @@
 /** Promise 4: run, with the codes and limits that the terms tell. */
-final class RunTest {
+final class RunTest extends Runs {
     private static final String SHA_OF_NONE = "e3b0c44298fc1c149afbf4c8996fb92427ae41e4649b934ca495991b7852b855";
 
     public static void main(String[] args) {
@@ -30,33 +30,6 @@ final class RunTest {
         thingLimit();
         longRun();
         Check.finish();
-    }
-
-    /** Both scripts end, with this stack, whose top alone tells 1 from 2. */
-    private static void ends(String first, String second, int answer, String stack) {
-        String what = "run [" + first + "] [" + second + "]";
-        ScriptDesk desk = new ScriptDesk();
-        Check.same(what, Scripts.run(desk, first, second), answer);
-        Check.same(what + " stack", Scripts.stack(desk), stack);
-    }
-
-    private static void leaves(String script, String stack) {
-        boolean falseTop = stack.isEmpty() || stack.endsWith("-") || stack.endsWith(" 00");
-        ends(script, "", falseTop ? 1 : 2, stack);
-        ends("", script, falseTop ? 1 : 2, stack);
-    }
-
-    private static void fails(String first, String second) {
-        String what = "run [" + first + "] [" + second + "]";
-        ScriptDesk desk = Scripts.ran("7 8", "");
-        Check.same(what, Scripts.run(desk, first, second), 0);
-        Check.same(what + " stack", Scripts.stack(desk), "07 08");
-        Check.refused(what + " row", IllegalArgumentException.class, () -> desk.end(1));
-    }
-
-    private static void fails(String script) {
-        fails(script, "");
-        fails("", script);
     }
 
     private static void twoScripts() {
